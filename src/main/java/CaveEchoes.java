@@ -34,11 +34,11 @@ public final class CaveEchoes {
     private static final int MORE_THAN_ANY = 1000000;
     private static final long HASH_START = 798L;
 
-    private final State now = new State();
+    private final Study study = new Study();
+    private final State now = study.state;
     private final History history = new History();
     private final Snapshots snapshots = new Snapshots();
     private final Works works = new Works();
-    private final Study study = new Study(now);
     private final Reader reader = new Reader();
     private final Paper paper = new Paper();
 
@@ -222,7 +222,7 @@ public final class CaveEchoes {
 
     public int sumWithDelay(int delay) throws IllegalArgumentException {
         needArgument(isWithin(delay, 1, MOST_DELAY));
-        return study.sumByDelay(delay);
+        return study.sumIf(DELAY, delay, now.speed, now.first);
     }
 
     public int bestDelay() {
@@ -350,14 +350,16 @@ public final class CaveEchoes {
 
     public int harm(int number) throws IndexOutOfBoundsException {
         needIndex(isTold(number));
-        return harmBy(number);
+        reader.read(now.letter, number);
+        return reader.countUnlike(now.letter);
     }
 
     public int worst() {
         int worstNumber = NONE;
         int most = -1;
         for (int number = 0; number < now.letter.count; number++) {
-            int unlikes = harmBy(number);
+            reader.read(now.letter, number);
+            int unlikes = reader.countUnlike(now.letter);
             if (unlikes > most) {
                 most = unlikes;
                 worstNumber = number;
@@ -477,7 +479,7 @@ public final class CaveEchoes {
     }
 
     private static int limit(int value) {
-        return Math.max(-LOUDEST, Math.min(LOUDEST, value));
+        return value > LOUDEST ? LOUDEST : value < -LOUDEST ? -LOUDEST : value;
     }
 
     private static int fold(int left) {
@@ -488,21 +490,21 @@ public final class CaveEchoes {
         return (folded & 1) == 0 ? folded / 2 : -(folded + 1) / 2;
     }
 
-    private static int bitsOfLeft(int left, int parameter) {
-        return (fold(left) >> parameter) + 1 + parameter;
+    private static int bitsOfFolded(int folded, int parameter) {
+        return (folded >> parameter) + 1 + parameter;
     }
 
     private static boolean haveSameSign(int one, int other) {
         return one > 0 == other > 0;
     }
 
-    private int harmBy(int number) {
-        reader.read(now.letter, number);
-        return reader.countUnlike(now.letter);
-    }
-
-    private void writeLetter() {
-        study.weighBlocks();
+    /** Writes a letter in place of the one before, if there is a sound; tells whether it did. */
+    private boolean writeLetter() {
+        if (now.count <= 0) {
+            return false;
+        }
+        study.follow();
+        study.findParameters();
         Letter letter = now.letter;
         letter.count = now.count;
         letter.delay = now.delay;
@@ -518,6 +520,7 @@ public final class CaveEchoes {
             letter.lefts[number] = study.leftBy(letter.kinds[number / BLOCK], number);
         }
         now.lettersSent++;
+        return true;
     }
 
     /** Does the work that was read last, if the call for it would not throw; tells whether it did. */
@@ -530,7 +533,7 @@ public final class CaveEchoes {
             case 'k':
                 return turnIfPossible(works.value);
             case 's':
-                return sendIfPossible();
+                return writeLetter();
             case 't':
                 return tamperIfPossible(works.place, works.value);
             case 'd':
@@ -561,14 +564,6 @@ public final class CaveEchoes {
         boolean possible = now.canTurn(kind);
         if (possible) {
             now.turn(kind);
-        }
-        return possible;
-    }
-
-    private boolean sendIfPossible() {
-        boolean possible = now.count > 0;
-        if (possible) {
-            writeLetter();
         }
         return possible;
     }
@@ -767,7 +762,7 @@ public final class CaveEchoes {
         int countBits() {
             int bits = blocksOf(count) * HEAD_BITS;
             for (int number = 0; number < count; number++) {
-                bits += bitsOfLeft(lefts[number], parameters[number / BLOCK]);
+                bits += bitsOfFolded(fold(lefts[number]), parameters[number / BLOCK]);
             }
             return bits;
         }
@@ -834,12 +829,14 @@ public final class CaveEchoes {
         int count = 0;
         int delay = 1;
         int speed = 0;
+        int weighed = 0;
 
         void begin(int theDelay, int theSpeed, int[] first) {
             System.arraycopy(first, 0, weights, 0, WEIGHTS);
             count = 0;
             delay = theDelay;
             speed = theSpeed;
+            weigh();
         }
 
         int shownBefore(int back) {
@@ -850,60 +847,54 @@ public final class CaveEchoes {
         int foretell(int kind) {
             switch (kind) {
                 case LAST:
-                    return limit(shownBefore(1));
+                    return shownBefore(1);
                 case SLOPE:
                     return limit(2 * shownBefore(1) - shownBefore(2));
                 case DELAY:
-                    return limit(shownBefore(delay));
+                    return shownBefore(delay);
                 case WEIGHED:
-                    return limit(weigh());
+                    return weighed;
                 default:
                     return 0;
             }
         }
 
-        int weigh() {
-            int sum = 8;
-            for (int weight = 1; weight <= WEIGHTS; weight++) {
-                sum += weights[weight - 1] * shownBefore(weight);
-            }
-            return Math.floorDiv(sum, 16);
-        }
-
         void show(int sample) {
-            int left = sample - limit(weigh());
-            if (left != 0) {
-                adapt(left);
-            }
+            adapt(sample - weighed);
             if (count < MOST_SAMPLES) {
                 shown[count] = sample;
                 count++;
             }
+            weigh();
+        }
+
+        void weigh() {
+            int sum = 8;
+            for (int weight = 1; weight <= WEIGHTS; weight++) {
+                sum += weights[weight - 1] * shownBefore(weight);
+            }
+            weighed = limit(Math.floorDiv(sum, 16));
         }
 
         void adapt(int left) {
             for (int weight = 1; weight <= WEIGHTS; weight++) {
                 int earlier = shownBefore(weight);
-                if (earlier != 0) {
+                if (left != 0 && earlier != 0) {
                     weights[weight - 1] += haveSameSign(left, earlier) ? speed : -speed;
                 }
             }
         }
     }
 
-    /** What is foretold for the sound of a state; it is made anew for each call, never kept. */
+    /** The state as it is now, and what is foretold for its sound: made anew for each call, never kept. */
     private static final class Study {
-        final State state;
+        final State state = new State();
         final Foreteller foreteller = new Foreteller();
         final int[] otherFirst = new int[WEIGHTS];
         final int[][] foretellings = new int[KINDS][MOST_SAMPLES + 1];
         final int[][] weights = new int[WEIGHTS][MOST_SAMPLES + 1];
         final int[][] parameters = new int[KINDS][MOST_BLOCKS];
         final int[][] fewestBits = new int[KINDS][MOST_BLOCKS];
-
-        Study(State theState) {
-            state = theState;
-        }
 
         /** Makes the rows of what is foretold and of weights, up to the sample that may come next. */
         void follow() {
@@ -920,7 +911,7 @@ public final class CaveEchoes {
         }
 
         int leftBy(int kind, int number) {
-            return state.soundAt(number) - foretellings[kind][number];
+            return state.sound[number] - foretellings[kind][number];
         }
 
         /** How often a weight became greater ahead of a sample, less how often it became less. */
@@ -940,10 +931,6 @@ public final class CaveEchoes {
             return sumIf(kind, state.delay, state.speed, state.first);
         }
 
-        int sumByDelay(int delay) {
-            return sumIf(DELAY, delay, state.speed, state.first);
-        }
-
         int sumIf(int kind, int delay, int speed, int[] first) {
             foreteller.begin(delay, speed, first);
             int sum = 0;
@@ -959,7 +946,7 @@ public final class CaveEchoes {
             int best = 1;
             int least = MORE_THAN_ANY;
             for (int delay = 1; delay <= MOST_DELAY; delay++) {
-                int sum = sumByDelay(delay);
+                int sum = sumIf(DELAY, delay, state.speed, state.first);
                 if (sum < least) {
                     least = sum;
                     best = delay;
@@ -999,6 +986,10 @@ public final class CaveEchoes {
         /** Makes the rows of best parameters and of their bits, by first making those of follow(). */
         void weighBlocks() {
             follow();
+            findParameters();
+        }
+
+        void findParameters() {
             for (int block = 0; block < blocksOf(state.count); block++) {
                 for (int kind = 0; kind < KINDS; kind++) {
                     findParameter(block, kind);
@@ -1022,7 +1013,7 @@ public final class CaveEchoes {
             int bits = HEAD_BITS;
             int end = Math.min((block + 1) * BLOCK, state.count);
             for (int number = block * BLOCK; number < end; number++) {
-                bits += bitsOfLeft(leftBy(kind, number), parameter);
+                bits += bitsOfFolded(fold(leftBy(kind, number)), parameter);
             }
             return bits;
         }
@@ -1094,7 +1085,7 @@ public final class CaveEchoes {
             foreteller.begin(letter.delay, letter.speed, letter.first);
             for (int number = 0; number < letter.count; number++) {
                 int left = letter.lefts[number] + (number == more ? 1 : 0);
-                hear(letter.kinds[number / BLOCK], left);
+                foreteller.show(limit(foreteller.foretell(letter.kinds[number / BLOCK]) + left));
             }
         }
 
@@ -1108,12 +1099,9 @@ public final class CaveEchoes {
                     kind = paper.readNumber(HEAD_PLACES);
                     parameter = paper.readNumber(HEAD_PLACES);
                 }
-                hear(kind, unfold(paper.readFolded(parameter)));
+                int left = unfold(paper.readFolded(parameter));
+                foreteller.show(limit(foreteller.foretell(kind) + left));
             }
-        }
-
-        void hear(int kind, int left) {
-            foreteller.show(limit(foreteller.foretell(kind) + left));
         }
 
         int heardAt(int number) {
@@ -1270,11 +1258,9 @@ public final class CaveEchoes {
 
         boolean readSigned(int most) {
             boolean negative = take('-');
-            if (!readValue(0, most)) {
-                return false;
-            }
-            value = negative ? -value : value;
-            return true;
+            int size = readNumber(0, most);
+            value = negative ? -size : size;
+            return size != NONE;
         }
 
         /**
@@ -1287,7 +1273,7 @@ public final class CaveEchoes {
                 return NONE;
             }
             at++;
-            while (number > 0 && digitHere() != NONE && 10 * number + digitHere() <= most) {
+            while (at < length && number > 0 && digitHere() != NONE && 10 * number + digitHere() <= most) {
                 number = 10 * number + digitHere();
                 at++;
             }

@@ -40,6 +40,11 @@ public final class BitsTest {
         Checks.due("bestParameter(), of several", Caves.of(1).bestParameter(0, 0), 0);
         // folded 100: 8 bits with the parameter 6, and 8 with 7
         Checks.due("bestParameter(), of several", Caves.of(50).bestParameter(0, 0), 6);
+        // folded 4: 5 bits with the parameter 0, 4 with 1, and 4 with 2
+        CaveEchoes changed = Caves.of(2);
+        Checks.due("bestParameter(), of several", changed.bestParameter(0, 0), 1);
+        changed.change(0, 0);
+        Checks.due("bestParameter() of the changed", changed.bestParameter(0, 0), 0);
         Checks.due("bestParameter()", Caves.of(0, 0, 0, 0, 0, 0, 0, 3).bestParameter(0, 0), 0);
         Checks.due("bestParameter() of one block", Caves.of(0, 0, 0, 0, 0, 0, 0, 0, 10).bestParameter(1, 0), 3);
         Checks.due("bestParameter() of the greatest", Caves.of(-99, 99).bestParameter(0, 1), 7);

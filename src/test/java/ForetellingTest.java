@@ -50,6 +50,10 @@ public final class ForetellingTest {
         weights(limited, 2, 61, 0, 0, 0);
         limited.setSpeed(0);
         weights(limited, 2, 64, 0, 0, 0);
+        // four samples later, and nothing but the first one ahead
+        weights(Caves.of(10, 0, 0, 0, 20), 5, 15, 0, 0, 1);
+        Checks.due("weightByCounting() by itself", Caves.of(10, 20, 30).weightByCounting(1, 3), 18);
+        Checks.due("weightAt() by itself", Caves.of(10, 20, 30).weightAt(1, 3), 18);
         // the kinds that are allowed do not matter
         weights(Caves.only(CaveEchoes.SILENCE, 10, 20, 30), 3, 18, 1, 0, 0);
     }
@@ -114,10 +118,10 @@ public final class ForetellingTest {
         CaveEchoes cave = Caves.of(1, 2, 3, 4, 5);
         cave.setSpeed(0);
         for (int weight = 1; weight <= 4; weight++) {
-            cave.setWeight(weight, new int[] {10, -20, 40, 5}[weight - 1]);
+            cave.setWeight(weight, new int[] {10, -20, 40, 50}[weight - 1]);
         }
-        // 10 * 5 - 20 * 4 + 40 * 3 + 5 * 2 + 8 = 108
-        Checks.due("by four weights", cave.foretold(CaveEchoes.WEIGHED, 5), 6);
+        // 10 * 5 - 20 * 4 + 40 * 3 + 50 * 2 + 8 = 198
+        Checks.due("by four weights", cave.foretold(CaveEchoes.WEIGHED, 5), 12);
     }
 
     private static void promise24() {

@@ -15,6 +15,7 @@ public final class LetterTest {
         promises42And43Tampered();
         promises44And45();
         promises44And45ByWeights();
+        promises44And45Restored();
         promises46And47();
         promises48And49();
         promise50();
@@ -223,9 +224,26 @@ public final class LetterTest {
         heard(cave, 99, 99, 90);
     }
 
+    /** A letter that undo brings back is read by its own delay, speed and weights. */
+    private static void promises44And45Restored() {
+        Checks.Script[] changes = {c -> c.setDelay(1), c -> c.setSpeed(3), c -> c.setWeight(1, -9)};
+        for (int i = 0; i < changes.length; i++) {
+            int kind = i == 0 ? CaveEchoes.DELAY : CaveEchoes.WEIGHED;
+            CaveEchoes cave = sent(Caves.only(kind, 10, 20, 30, -40, 50));
+            changes[i].on(cave);
+            cave.send();
+            cave.undo();
+            Checks.due("unlike() after undo()", cave.unlike(), 0);
+            heard(cave, 10, 20, 30, -40, 50);
+        }
+        CaveEchoes bare = sent(Caves.only(CaveEchoes.WEIGHED, 10, 20, 30, -40, 50));
+        Checks.due("heardByBits() by itself", bare.heardByBits(3), -40);
+    }
+
     private static void promises46And47() {
         Checks.due("unlike(), no letter", Caves.of(1).unlike(), 0);
         Checks.due("firstUnlike(), no letter", Caves.of(1).firstUnlike(), -1);
+        Checks.due("firstUnlike() by itself", sent(Caves.of(10, 20, 30)).firstUnlike(), -1);
         CaveEchoes cave = sent(Caves.only(CaveEchoes.LAST, 10, 20, 30));
         Checks.due("unlike()", cave.unlike(), 0);
         Checks.due("firstUnlike()", cave.firstUnlike(), -1);
@@ -262,6 +280,7 @@ public final class LetterTest {
         CaveEchoes loud = sent(Caves.only(CaveEchoes.LAST, 99, 5, 6));
         Checks.due("harm(0), 99 at most", loud.harm(0), 0);
         Checks.due("worst()", loud.worst(), 1);
+        Checks.due("worst(), no harm at all", sent(Caves.of(99)).worst(), 0);
         CaveEchoes silence = sent(Caves.only(CaveEchoes.SILENCE, 5, 5, 5));
         Checks.due("worst(), of several", silence.worst(), 0);
         silence.tamper(1, 198);
