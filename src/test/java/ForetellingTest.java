@@ -52,7 +52,7 @@ public final class ForetellingTest {
         weights(limited, 2, 64, 0, 0, 0);
         // four samples later, and nothing but the first one ahead
         weights(Caves.of(10, 0, 0, 0, 20), 5, 15, 0, 0, 1);
-        Checks.due("weightByCounting() by itself", Caves.of(10, 20, 30).weightByCounting(1, 3), 18);
+        Checks.due("weightByCounting() by itself", Caves.of(10, 10, 30).weightByCounting(1, 3), 17);
         Checks.due("weightAt() by itself", Caves.of(10, 20, 30).weightAt(1, 3), 18);
         // the kinds that are allowed do not matter
         weights(Caves.only(CaveEchoes.SILENCE, 10, 20, 30), 3, 18, 1, 0, 0);

@@ -115,6 +115,10 @@ public final class TextTest {
         Checks.due("firstError()", cave.firstError(), NONE);
         Checks.due("doWorks()", cave.doWorks(), 1);
         Checks.due("sampleAt(0)", cave.sampleAt(0), 1);
+        CaveEchoes shorter = with("s;s");
+        shorter.clearText();
+        Checks.text(shorter, "s");
+        Checks.due("firstError() of what was cleared", shorter.firstError(), NONE);
     }
 
     private static void promise56() {
