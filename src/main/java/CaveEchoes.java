@@ -1212,14 +1212,16 @@ public final class CaveEchoes {
         /** Tells the place of the first error; reading always stops on it, or on the text's end. */
         int findFault() {
             at = 0;
-            boolean more = true;
-            while (more && at < MOST_CODES) {
+            // a work has a character at least, so the text's length bounds the works
+            for (int works = 0; works < MOST_CODES; works++) {
                 if (!readWork()) {
                     return at;
                 }
-                more = take(';');
+                if (!take(';')) {
+                    return at == length ? NONE : at;
+                }
             }
-            return !more && at == length ? NONE : at;
+            return at;
         }
 
         boolean readWork() {

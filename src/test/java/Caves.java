@@ -17,11 +17,33 @@ final class Caves {
         Checks.text(cave, "+5;s");
     }
 
+    /** 48 samples, a text, and no letter. */
     static void full(CaveEchoes cave) {
-        for (int sample = 1; sample <= 48; sample++) {
+        count(cave, 48);
+        Checks.text(cave, "x");
+    }
+
+    /** 48 samples, and a letter that tells them. */
+    static void fullAndSent(CaveEchoes cave) {
+        count(cave, 48);
+        cave.send();
+    }
+
+    static void count(CaveEchoes cave, int most) {
+        for (int sample = 1; sample <= most; sample++) {
             cave.add(sample);
         }
-        Checks.text(cave, "x");
+    }
+
+    /** A cave with the samples 1, 2, 3, and so on. */
+    static CaveEchoes counting(int most) {
+        CaveEchoes cave = new CaveEchoes();
+        count(cave, most);
+        return cave;
+    }
+
+    static CaveEchoes silent(int samples) {
+        return of(new int[samples]);
     }
 
     /** A cave in which one kind alone is allowed. */

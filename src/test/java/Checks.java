@@ -14,6 +14,14 @@ final class Checks {
     private Checks() {
     }
 
+    static int checks() {
+        return checks;
+    }
+
+    static int wrong() {
+        return wrong;
+    }
+
     static void due(String what, Object answer, Object want) {
         checks++;
         if (!Objects.equals(answer, want)) {

@@ -142,66 +142,19 @@ public final class KeepingTest {
         Checks.due("digest() after undo()", cave.digest(), digest);
     }
 
-    // ---- the digest, told by the public answers alone
-
-    private static long hash;
-
-    private static void mix(long... values) {
-        for (long value : values) {
-            hash = 31 * hash + value;
-        }
-    }
-
-    private static long told(CaveEchoes c) {
-        hash = 798;
-        mix(c.samples(), c.delay(), c.speed(), c.allowed(), c.bits(), c.bestDelay(), c.bestSpeed(), c.bestFirst(1));
-        mix(c.told(), c.letterBits(), c.unlike(), c.firstUnlike(), c.worst(), c.sent());
-        mix(Double.doubleToLongBits(c.loudness()));
-        mix(c.firstWeight(1), c.firstWeight(2), c.firstWeight(3), c.firstWeight(4));
-        for (int kind = 0; kind < 5; kind++) {
-            mix(c.sumOf(kind), c.blocksWith(kind), c.bitsIfOnly(kind), c.foretold(kind, c.samples()));
-        }
-        for (int t = 0; t < c.samples(); t++) {
-            mix(c.sampleAt(t), c.leftOver(4, t));
-            mix(c.weightAt(1, t), c.weightAt(2, t), c.weightAt(3, t), c.weightAt(4, t));
-        }
-        for (int block = 0; block < c.blocks(); block++) {
-            mix(c.bestKind(block), c.whyBest(block));
-            for (int kind = 0; kind < 5; kind++) {
-                mix(c.bestParameter(block, kind));
-            }
-        }
-        for (int block = 0; block < (c.told() + 7) / 8; block++) {
-            mix(c.letterKind(block), c.letterParameter(block));
-        }
-        for (int t = 0; t < c.told(); t++) {
-            mix(c.letterLeft(t), c.heard(t));
-        }
-        for (int bit = 0; bit < c.letterBits(); bit++) {
-            mix(c.letterBit(bit) ? 1 : 0);
-        }
-        return hash;
-    }
-
     private static void promise58() {
-        CaveEchoes cave = new CaveEchoes();
-        Checks.due("digest() of a new object", cave.digest(), told(cave));
+        Checks.due("digest() of a new object", new CaveEchoes().digest(), Digest.of(Caves::bare));
         Checks.Script[] scripts = {Caves::rich, Caves::full, KeepingTest::changeAllOfRich, c -> c.echo(16, 1, 1)};
         for (Checks.Script script : scripts) {
             CaveEchoes built = Checks.make(script);
-            Checks.due("digest()", built.digest(), told(built));
+            Checks.due("digest()", built.digest(), Digest.of(script));
             Checks.due("digest() again", built.digest(), built.digest());
         }
         for (int sum = 0; sum <= 99; sum++) {
             // loudness() of 7 samples, from 0 and 1/7 up
-            CaveEchoes loud = Caves.of(-sum, sum, 0, 0, 1, 0, sum / 2);
-            Checks.due("digest()", loud.digest(), told(loud));
+            int[] sound = {-sum, sum, 0, 0, 1, 0, sum / 2};
+            Checks.due("digest()", Caves.of(sound).digest(), Digest.of(c -> Checks.sound(c, sound)));
         }
-        CaveEchoes soft = Checks.make(Caves::full);
-        for (int number = 0; number < 48; number++) {
-            soft.change(number, number == 47 ? 1 : 0);
-        }
-        Checks.due("digest() of the softest", soft.digest(), told(soft));
     }
 
     private static void changeAllOfRich(CaveEchoes cave) {
