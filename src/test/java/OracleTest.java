@@ -86,14 +86,14 @@ public final class OracleTest {
         int period = 1 + random.nextInt(12);
         for (int t = 0; t < start; t++) {
             int noise = random.nextInt(2 * size + 1) - size;
-            int sample = t >= period && random.nextInt(4) > 0 ? cave.sampleAt(t - period) : noise;
+            int sample = t >= period && random.nextInt(4) > 0 ? oracle.sampleAt(t - period) : noise;
             call(CaveEchoes.class.getMethod("add", int.class), sample);
         }
         while (calls < CALLS) {
             int dice = random.nextInt(30);
             if (dice == 0) {
                 works();
-            } else if (dice == 1 && cave.samples() > 0) {
+            } else if (dice == 1 && oracle.samples() > 0) {
                 call(CaveEchoes.class.getMethod("send"));
             } else if (dice == 2) {
                 call(CaveEchoes.class.getMethod("digest"));
